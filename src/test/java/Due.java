@@ -1,0 +1,48 @@
+/** Counts the answers that are not as due; each test ends with end(). */
+final class Due {
+    private static int wrong = 0;
+    private static int seen = 0;
+
+    private Due() { }
+
+    static void is(String what, long got, long want) {
+        seen++;
+        if (got != want) {
+            wrong++;
+            System.out.println(what + " answered " + got + ", due is " + want);
+        }
+    }
+
+    static void isTrue(String what, boolean holds) {
+        is(what, holds ? 1 : 0, 1);
+    }
+
+    /** An answer that is a code, told by code() too. */
+    static void fails(String what, DecisionArrays x, long got, int code) {
+        is(what, got, -code);
+        is(what + ", then code()", x.code(), code);
+    }
+
+    /** An answer of 0 (or another one) that has a code by code() alone. */
+    static void fails(String what, DecisionArrays x, long got, long want, int code) {
+        is(what, got, want);
+        is(what + ", then code()", x.code(), code);
+    }
+
+    /** An answer without a code. */
+    static void fine(String what, DecisionArrays x, long got, long want) {
+        is(what, got, want);
+        is(what + ", then code()", x.code(), 0);
+    }
+
+    static boolean anyWrong() {
+        return wrong > 0;
+    }
+
+    static void end() {
+        if (wrong > 0 || seen == 0) {
+            System.out.println(wrong + " of " + seen + " answers are not as due");
+            System.exit(1);
+        }
+    }
+}
