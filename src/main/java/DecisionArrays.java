@@ -1285,6 +1285,7 @@ public final class DecisionArrays {
         private final long[] lows = new long[MOST_RULES];
         private final long[] highs = new long[MOST_RULES];
         private final long[] tallies = new long[MOST_RULES];
+        private final long[] borne = new long[MOST_RULES];
 
         Rules(Store store) {
             this.store = store;
@@ -1379,17 +1380,24 @@ public final class DecisionArrays {
             int a = where / PER_ARRAY;
             int p = where % PER_ARRAY;
             for (int r = 0; r < made; r++) {
-                if (judged[r] == a && sorts[r] != FAR) {
-                    tallies[r] -= bearingOf(r, p);
-                }
+                borne[r] = judged[r] == a ? bearingOf(r, p) : 0L;
             }
             store.bits[store.start[a] + p] = value;
             for (int r = 0; r < made; r++) {
-                if (judged[r] == a && sorts[r] != FAR) {
-                    tallies[r] += bearingOf(r, p);
-                } else if (judged[r] == a) {
-                    measure(r);
+                if (judged[r] == a) {
+                    adjust(r, borne[r], bearingOf(r, p));
                 }
+            }
+        }
+
+        private void adjust(int r, long before, long now) {
+            if (sorts[r] != FAR) {
+                tallies[r] += now - before;
+            } else if (now >= tallies[r]) {
+                tallies[r] = now;
+            } else if (before == tallies[r]) {
+                // The greatest step may be gone, and which one is the next is not kept.
+                measure(r);
             }
         }
 
@@ -1397,14 +1405,20 @@ public final class DecisionArrays {
         private long bearingOf(int r, int p) {
             int a = judged[r];
             int first = store.start[a];
+            int next = first + p + 1;
             int end = first + store.length[a];
             long bearing = shareOf(r, p);
-            if (sorts[r] == UNLIKE) {
-                bearing += alikeIn(store.kind[a], store.bits[first + p], first + p + 1, end);
-            } else if ((sorts[r] == RISING || sorts[r] == CHANGES) && first + p + 1 < end) {
-                bearing += shareOf(r, p + 1);
+            switch (sorts[r]) {
+                case UNLIKE:
+                    return bearing + alikeIn(store.kind[a], store.bits[first + p], next, end);
+                case RISING:
+                case CHANGES:
+                    return next < end ? bearing + shareOf(r, p + 1) : bearing;
+                case FAR:
+                    return next < end ? Math.max(bearing, shareOf(r, p + 1)) : bearing;
+                default:
+                    return bearing;
             }
-            return bearing;
         }
     }
 
