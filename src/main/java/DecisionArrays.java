@@ -1430,13 +1430,17 @@ public final class DecisionArrays {
 
         void keep(Store store) {
             used = store.used;
-            System.arraycopy(store.bits, 0, bits, 0, used);
-            System.arraycopy(store.pinned, 0, pinned, 0, used);
+            for (int slot = 0; slot < used; slot++) {
+                bits[slot] = store.bits[slot];
+                pinned[slot] = store.pinned[slot];
+            }
         }
 
         void bringBack(Store store) {
-            System.arraycopy(bits, 0, store.bits, 0, used);
-            System.arraycopy(pinned, 0, store.pinned, 0, used);
+            for (int slot = 0; slot < used; slot++) {
+                store.bits[slot] = bits[slot];
+                store.pinned[slot] = pinned[slot];
+            }
         }
     }
 }

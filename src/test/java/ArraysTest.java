@@ -174,6 +174,10 @@ public final class ArraysTest {
         Due.fine("5 no elements", x, x.count(1), 0);
         Due.fine("5 60 arrays", x, x.grid(4, 2, 59, 1, 1, 1), 0);
         Due.fine("5 59 rows", x, x.count(0), 60);
+        Due.fails("5 length -1 at first", x, x.grid(4, 1, -1, 1, 1, 1), 4);
+        DecisionArrays z = new DecisionArrays();
+        Due.fine("5 booleans", z, z.grid(0, 2, 1, 200, 0, 0), 0);
+        Due.fine("5 200 long", z, z.about(1, 2), 200);
         DecisionArrays y = new DecisionArrays();
         Due.fine("5 most elements", y, y.grid(4, 2, 20, 199, 1, 1), 0);
         Due.fine("5 4000", y, y.count(1), 4000);
@@ -192,9 +196,12 @@ public final class ArraysTest {
             Due.fine("6 about " + what, x, x.about(0, what), due[what]);
             Due.fine("6 about rows " + what, x, x.about(1, what), dueRows[what]);
         }
+        x.array(5, 2);
+        x.fill(2, 0, 2, 5, -1);
+        Due.fine("6 no rows, no nulls", x, x.about(2, 4), 0);
         Due.fails("6 what 6", x, x.about(0, 6), 9);
         Due.fails("6 what -1", x, x.about(0, -1), 9);
-        Due.fails("6 no array", x, x.about(2, 0), 5);
+        Due.fails("6 no array", x, x.about(3, 0), 5);
         Due.fails("6 array ahead of what", x, x.about(-1, 6), 5);
     }
 

@@ -175,6 +175,11 @@ public final class ElementsTest {
         Due.fine("13 of longs", x, x.column(5, 2), 1002);
         Due.fine("13 none of shorts", x, x.column(3, 0), -2);
         Due.fine("13 greatest", x, x.column(4, Integer.MAX_VALUE), -2);
+        for (int a = 5; a < 60; a++) {
+            x.array(4, 1);
+        }
+        Due.fine("13 last of 60", x, x.column(4, 58), 59000);
+        Due.fine("13 none in 60", x, x.column(4, 59), -2);
         Due.fails("13 below 0", x, x.column(4, -1), 9);
         Due.fails("13 kind 9", x, x.column(9, 0), 9);
         Due.fails("13 kind -1", x, x.column(-1, 0), 9);

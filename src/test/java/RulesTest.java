@@ -248,6 +248,7 @@ public final class RulesTest {
         for (int i = 0; i < 5; i++) {
             Due.fine("33 nothing is made", x, x.read(0, i, 0, 0, 0, 4), 3);
         }
+        fullHouse();
         DecisionArrays y = new DecisionArrays();
         y.array(4, 24);
         for (int i = 0; i < 24; i++) {
@@ -255,6 +256,25 @@ public final class RulesTest {
         }
         Due.fine("36 16 by 24 times", y, y.count(5), 5001);
         Due.fails("33 16 by 24 times", y, y.best(), 8);
+    }
+
+    /** 24 DECISIONS, 12 RULES, one array to its end. */
+    private static void fullHouse() {
+        DecisionArrays x = new DecisionArrays();
+        x.array(6, 24);
+        for (int i = 0; i < 24; i++) {
+            x.decide(0, i, 0, 0, 0);
+            x.candidate(i, Float.floatToIntBits(i));
+        }
+        x.candidate(23, Float.floatToIntBits(24f));
+        x.candidate(0, Float.floatToIntBits(-1f));
+        for (int r = 0; r < 12; r++) {
+            x.rule(r % 6, 0, r % 6 == 3 ? 5 : 1, r % 6 == 3 ? Float.floatToIntBits(24f) : 276, r % 6 == 3 ? 1 : 276);
+        }
+        Due.fine("33 full house", x, x.best(), 4);
+        Due.fine("33 its last", x, x.decision(23, 3), 1);
+        Due.fine("33 its first", x, x.decision(0, 3), 1);
+        Due.is("33 its score", x.score(), 2 * (23 + 2));
     }
 
     /** Against trying every way by choose() and score(), with every sort of rule. */

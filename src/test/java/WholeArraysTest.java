@@ -254,7 +254,15 @@ public final class WholeArraysTest {
         Due.fails("19 4000 elements", y, y.deep(1), 8);
         Due.is("19 nothing made of it", y.count(1), 219);
         y.setRow(1, 18, -1);
-        Due.fine("19 3838 elements", y, y.deep(1), 2);
+        y.array(0, 162);
+        Due.fine("19 4000 elements in all", y, y.deep(1), 3);
+        Due.is("19 all", y.count(1), 4000);
+        DecisionArrays z = new DecisionArrays();
+        z.grid(2, 4, 1, 2, 1, 1);
+        Due.fine("19 depth 4", z, z.deep(0), 6);
+        Due.is("19 depth 4, same", z.same(0, 6), 1);
+        Due.is("19 depth 4, the last row", z.row(10, 0), 11);
+        Due.is("19 depth 4, no nulls", z.about(10, 4), 0);
     }
 
     private static void sort() {
