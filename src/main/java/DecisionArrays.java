@@ -1215,8 +1215,8 @@ public final class DecisionArrays {
                 return true;
             }
             long value = low;
-            // Each turn meets a CANDIDATE of before, or appends one: both are 16 at most.
-            for (int turn = 0; turn <= 2 * MOST_CANDIDATES; turn++) {
+            // Each turn leaves a value of its own among the CANDIDATES: the 17th does not fit.
+            for (int turn = 0; turn <= MOST_CANDIDATES; turn++) {
                 if (indexOf(d, value) < 0) {
                     if (counts[d] >= MOST_CANDIDATES) {
                         return false;

@@ -173,6 +173,7 @@ public final class ArrayPromisesEdgesTest {
         x.setRow(1, 1, 0);
         Due.fine("no null", x, x.about(1, 4), 0);
         x.rows(0, 0);
+        Make.add(x, 5, -1);
         Due.fine("no rows, no null", x, x.about(2, 4), 0);
         Due.fine("rows of 0", x, x.about(2, 2), 0);
         Due.fails("what 6", x, x.about(0, 6), 9);
@@ -302,6 +303,11 @@ public final class ArrayPromisesEdgesTest {
         Due.fine("far behind", x, x.column(4, Integer.MAX_VALUE), -2);
         Due.fine("of another kind", x, x.column(5, 0), 1000);
         Due.fine("of none", x, x.column(3, 0), -2);
+        for (int a = 5; a < 60; a++) {
+            x.array(4, 1);
+        }
+        Due.fine("in the 60th array", x, x.column(4, 57), 59000);
+        Due.fine("behind the 60th", x, x.column(4, 58), -2);
         Due.fails("n -1", x, x.column(4, -1), 9);
         Due.fails("least n", x, x.column(4, Integer.MIN_VALUE), 9);
     }

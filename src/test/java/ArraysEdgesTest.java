@@ -8,6 +8,7 @@ public final class ArraysEdgesTest {
         firstElements();
         rowsAreAlike();
         fourThousand();
+        lastOfFourThousand();
         pathsCount();
         noSuchArray();
         numbersNotTold();
@@ -191,6 +192,52 @@ public final class ArraysEdgesTest {
         Due.fine("the last element", x, x.write(21, 0, 0, 0, 0, 5, -1), 0);
         Make.holds("the last element", x, 21, -1);
         Due.fine("the row before it", x, x.row(20, 0), 21);
+    }
+
+    /** Calls at the very end of the room, where one step more would be outside. */
+    private static void lastOfFourThousand() {
+        Due.says("All together have 4000 elements at most, ROWS too.");
+        DecisionArrays x = new DecisionArrays();
+        x.array(8, 99);
+        x.rows(x.things(3, 0), 100);
+        for (int a = 3; a < 22; a++) {
+            x.array(4, a < 21 ? 200 : 198);
+        }
+        x.things(3, 3);
+        Due.fine("4000", x, x.count(1), 4000);
+        Due.fine("fill", x, x.fill(22, 0, 3, 8, 3), 3);
+        x.write(0, 98, 0, 0, 0, 8, 10);
+        Due.fine("move there", x, x.move(0, 98, 22, 2, 1), 1);
+        Due.fine("move within", x, x.move(22, 1, 22, 0, 2), 2);
+        Make.holds("moved", x, 22, 3, 10, 10);
+        Due.fine("move away", x, x.move(22, 0, 0, 96, 3), 3);
+        x.write(22, 0, 0, 0, 0, 8, 17);
+        Due.fine("sort", x, x.sort(22, 0, 3), 2);
+        Make.holds("sorted", x, 22, 10, 10, 17);
+        Due.fine("search", x, x.search(22, 17), 2);
+        Due.fine("search above", x, x.search(22, 18), -103);
+        Due.fine("the same", x, x.same(22, 22), 1);
+        Due.fine("not the same", x, x.same(22, 1), 0);
+        Due.fine("hash", x, x.hash(22), 29791 + 961 * 10 + 31 * 10 + 17);
+        Due.fine("column", x, x.column(8, 101), 22002);
+        Due.fine("behind the last", x, x.column(8, 102), -2);
+        for (int sort = 0; sort <= 5; sort++) {
+            x.rule(sort, 22, 1, 17, 17);
+        }
+        Due.is("score", x.score(), 20 + 1 + 0 + 16 + 1 + 7);
+        x.candidate(x.decide(22, 2, 0, 0, 0), 24);
+        x.candidate(0, 3);
+        x.candidate(0, 10);
+        Due.fine("mark", x, x.mark(), 1);
+        Due.fine("best", x, x.best(), 3);
+        Make.holds("the best", x, 22, 10, 10, 3);
+        Due.fine("pin", x, x.pin(22, 2, 0, 0, 0, true), 0);
+        Due.fine("pinned", x, x.about(22, 5), 1);
+        Due.fine("back", x, x.back(), 0);
+        Make.holds("as it was", x, 22, 10, 10, 17);
+        Due.fine("not pinned", x, x.about(22, 5), 0);
+        Due.fine("nothing to copy", x, x.copy(22, 0), 23);
+        Due.fine("rows", x, x.about(2, 4), 100);
     }
 
     private static void pathsCount() {

@@ -16,6 +16,8 @@ public final class ChoicePromisesEdgesTest {
         bestWays();
         bestIsMade();
         bestWithManyRules();
+        bestOfAFullHouse();
+        bestBesidePinnedOnes();
         mark();
         back();
         backOverRows();
@@ -373,6 +375,57 @@ public final class ChoicePromisesEdgesTest {
         Make.holds("far in the first", x, 0, 0, 0, 40, 0);
         Make.holds("near in the second", x, 1, 0, 10, 10, 0);
         Due.is("the score", x.score(), -2 * 40 + 10 + 10 - 3);
+    }
+
+    /** 24 DECISIONS and 12 RULES over one array: each has a say. */
+    private static void bestOfAFullHouse() {
+        Due.says("THE BEST CHOICE is made: how many ways there are.");
+        DecisionArrays x = Make.of(4, new long[24]);
+        for (int d = 0; d < 24; d++) {
+            x.decide(0, d, 0, 0, 0);
+            x.candidate(d, d);
+        }
+        x.candidate(0, 23);
+        x.candidate(23, 99);
+        x.candidate(12, 11);
+        for (int r = 0; r < 11; r++) {
+            x.rule(0, 0, 0, 0, 0);
+        }
+        x.rule(1, 0, -1, 0, 0);
+        Due.fine("8 ways", x, x.best(), 8);
+        Due.fine("its first", x, x.decision(0, 3), 1);
+        Due.fine("one between", x, x.decision(12, 3), 1);
+        Due.fine("its last", x, x.decision(23, 3), 0);
+        Due.is("two pairs", x.score(), -2);
+    }
+
+    private static void bestBesidePinnedOnes() {
+        Due.says("(of a PINNED one, or one without CANDIDATES, what is there)");
+        for (int pinned = 0; pinned < 3; pinned++) {
+            DecisionArrays x = Make.of(4, 50, 50, 50);
+            for (int d = 0; d < 3; d++) {
+                x.decide(0, d, 0, 0, 0);
+                x.span(d, 1, 3, 1);
+            }
+            x.pin(0, pinned, 0, 0, 0, true);
+            x.rule(0, 0, 1, 56, 56);
+            Due.fine("9 ways", x, x.best(), 9);
+            for (int i = 0; i < 3; i++) {
+                Due.fine("place " + i, x, x.read(0, i, 0, 0, 0, 4), i == pinned ? 50 : 3);
+            }
+        }
+        for (int empty = 0; empty < 3; empty++) {
+            DecisionArrays x = Make.of(4, 50, 50, 50);
+            for (int d = 0; d < 3; d++) {
+                x.decide(0, d, 0, 0, 0);
+                x.span(d, 1, d == empty ? 0 : 3, 1);
+            }
+            x.rule(0, 0, 1, 56, 56);
+            Due.fine("9 ways", x, x.best(), 9);
+            for (int i = 0; i < 3; i++) {
+                Due.fine("place " + i, x, x.read(0, i, 0, 0, 0, 4), i == empty ? 50 : 3);
+            }
+        }
     }
 
     private static void mark() {

@@ -196,6 +196,7 @@ public final class ChoicesEdgesTest {
         amountIs("at b", x, 0, 0, 10, 0);
         amountIs("just above b", x, 0, 0, 9, 1);
         amountIs("below a and above b", x, 0, 12, 7, 2);
+        amountIs("at a and above b", x, 0, 10, 7, 3);
         amountIs("no elements", Make.of(4), 0, 1, 1, 1);
         amountIs("wraps above", Make.of(5, Long.MAX_VALUE, 1), 0, Long.MIN_VALUE, Long.MIN_VALUE, 0);
         amountIs("wraps below", Make.of(5, Long.MIN_VALUE, -1), 0, Long.MAX_VALUE, Long.MAX_VALUE, 0);

@@ -222,13 +222,9 @@ public final class ElementsTest {
 
     /** Against Java's own casts, around every power of two and every place where halves are rounded. */
     private static void numbersWiden() {
-        DecisionArrays x = new DecisionArrays();
-        x.array(5, 1);
-        x.array(6, 1);
-        x.array(7, 1);
-        x.array(4, 1);
         for (int bit = 0; bit < 64; bit++) {
             for (int low = 0; low < 64; low++) {
+                DecisionArrays x = numbers();
                 for (int near = -1; near <= 1; near++) {
                     long whole = (1L << bit) + (1L << low) + near;
                     wholeWidens(x, whole);
@@ -237,13 +233,24 @@ public final class ElementsTest {
                 }
             }
         }
-        wholeWidens(x, Long.MIN_VALUE);
-        wholeWidens(x, Long.MAX_VALUE);
+        wholeWidens(numbers(), Long.MIN_VALUE);
+        wholeWidens(numbers(), Long.MAX_VALUE);
         for (int bits = 0; bits < 300; bits++) {
+            DecisionArrays x = numbers();
             floatWidens(x, bits);
             floatWidens(x, bits | 0x80000000);
             floatWidens(x, 0x7F7FFF00 + bits);
         }
+    }
+
+    /** A new object each time: one has 512 calls and no more. */
+    private static DecisionArrays numbers() {
+        DecisionArrays x = new DecisionArrays();
+        x.array(5, 1);
+        x.array(6, 1);
+        x.array(7, 1);
+        x.array(4, 1);
+        return x;
     }
 
     private static void wholeWidens(DecisionArrays x, long whole) {

@@ -193,6 +193,10 @@ public final class KindsEdgesTest {
         Due.says("a whole becomes the nearest float or double (of two as near the even one)");
         long p24 = 1L << 24;
         long p53 = 1L << 53;
+        for (int whole = 1; whole <= 4; whole++) {
+            toFloat(whole, Make.f(whole));
+            toDouble(whole, Make.d(whole));
+        }
         toFloat(p24 - 1, Make.f(16777215));
         toFloat(p24 + 1, Make.f(16777216));
         toFloat(p24 + 2, Make.f(16777218));

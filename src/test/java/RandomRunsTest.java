@@ -11,6 +11,9 @@ public final class RandomRunsTest {
         9007199254740993L, 0x43E0000000000000L, 0xC3E0000000000000L, 1L << 40, -(1L << 53) - 1, 0x5F000000L
     };
 
+    /** Calls whose answer alone does not tell whether there was a code. */
+    private static final String CODE_UNTOLD = ",5,7,11,18,20,25,26,28,29,";
+
     private final Random random;
     private final int mood;
     private final int kinds;
@@ -18,6 +21,7 @@ public final class RandomRunsTest {
     private final Model m = new Model();
     private final List<String> told = new ArrayList<>();
     private final int[] seen;
+    private int calls = 0;
 
     private RandomRunsTest(long seed, int[] seen) {
         random = new Random(seed);
@@ -50,15 +54,16 @@ public final class RandomRunsTest {
         }
     }
 
+    /** Each turn makes at most four calls. */
     private void run(int seed) {
-        for (int call = 0; call < 400 && !Due.anyWrong(); call++) {
-            int which = random.nextInt(call < 40 ? 40 : 60);
-            step(which < 34 ? which : call < 40 ? which - 34 : favoured());
-            if (random.nextInt(8) == 0) {
+        for (int turn = 0; calls <= 508 && !Due.anyWrong(); turn++) {
+            int which = random.nextInt(turn < 40 ? 40 : 60);
+            step(which < 34 ? which : turn < 40 ? which - 34 : favoured());
+            if (random.nextInt(16) == 0) {
+                calls++;
                 told.add("score()");
                 Due.is("score()", x.score(), m.score());
             }
-            Due.is("code()", x.code(), m.code);
         }
         if (Due.anyWrong()) {
             System.out.println("run " + seed + ":");
@@ -121,11 +126,16 @@ public final class RandomRunsTest {
     }
 
     private void due(int call, String what, long got, long want) {
+        calls++;
         told.add(what + " " + got + (got == want ? "" : ", due is " + want));
         if (m.code >= 0 && m.code < 10) {
             seen[call * 10 + m.code]++;
         }
         Due.is(what, got, want);
+        if (CODE_UNTOLD.contains("," + call + ",") || random.nextInt(4) == 0) {
+            calls++;
+            Due.is("code() behind " + what, x.code(), m.code);
+        }
     }
 
     private void step(int call) {
@@ -322,6 +332,7 @@ public final class RandomRunsTest {
 
     /** The Model judges all anew for each way: runs with many ways and long arrays would take too long. */
     private void best(int call) {
+        calls++;
         m.count(5);
         x.count(5);
         if (m.count(5) > 5000 || m.count(5) * m.judges.size() < 2000) {

@@ -158,6 +158,7 @@ public final class RefusedCallsTest {
     private static void refused(String sentence, Call call, int[] good, long bits, List<Fault> faults) {
         Due.says(sentence);
         DecisionArrays well = house();
+        Due.fails("a call ahead of it", well, well.hash(-1), 0, 5);
         call.on(well, good, bits);
         Due.is("without a fault", well.code(), 0);
         for (int set = 1; set < 1 << faults.size(); set++) {

@@ -279,24 +279,9 @@ public final class RulesTest {
 
     /** Against trying every way by choose() and score(), with every sort of rule. */
     private static void bestIsLeast() {
-        long[] doubles = {d(0.0), d(-0.0), d(1.5), d(-1.5), d(3), d(1 / 0.0)};
         for (int seed = 0; seed < 200; seed++) {
-            java.util.Random random = new java.util.Random(seed);
-            DecisionArrays x = new DecisionArrays();
-            x.array(7, 6);
-            x.array(7, 4);
-            x.fill(0, 2, 4, 7, NO_DOUBLE);
-            for (int q = 0; q < 4; q++) {
-                int dec = x.decide(random.nextInt(2), random.nextInt(4), 0, 0, 0);
-                for (int c = random.nextInt(4); c >= 0; c--) {
-                    x.candidate(dec, doubles[random.nextInt(6)]);
-                }
-            }
-            for (int r = 0; r < 8; r++) {
-                x.rule(random.nextInt(6), random.nextInt(2), random.nextInt(11) - 5,
-                    random.nextInt(5) - 2, random.nextInt(5) - 2);
-            }
-            long[] least = tryAll(x);
+            long[] least = tryAll(seed);
+            DecisionArrays x = mixed(seed);
             Due.fine("33 ways of " + seed, x, x.best(), x.count(5));
             Due.is("33 least of " + seed, x.score(), least[0]);
             for (int dec = x.count(2) - 1; dec >= 0; dec--) {
@@ -307,10 +292,32 @@ public final class RulesTest {
         }
     }
 
-    private static long[] tryAll(DecisionArrays x) {
+    private static DecisionArrays mixed(int seed) {
+        long[] doubles = {d(0.0), d(-0.0), d(1.5), d(-1.5), d(3), d(1 / 0.0)};
+        java.util.Random random = new java.util.Random(seed);
+        DecisionArrays x = new DecisionArrays();
+        x.array(7, 6);
+        x.array(7, 4);
+        x.fill(0, 2, 4, 7, NO_DOUBLE);
+        for (int q = 0; q < 4; q++) {
+            int dec = x.decide(random.nextInt(2), random.nextInt(4), 0, 0, 0);
+            for (int c = random.nextInt(4); c >= 0; c--) {
+                x.candidate(dec, doubles[random.nextInt(6)]);
+            }
+        }
+        for (int r = 0; r < 8; r++) {
+            x.rule(random.nextInt(6), random.nextInt(2), random.nextInt(11) - 5,
+                random.nextInt(5) - 2, random.nextInt(5) - 2);
+        }
+        return x;
+    }
+
+    /** The least SCORE, and the first way that has it; a new object for each way, for the sake of the 512 calls. */
+    private static long[] tryAll(int seed) {
         long[] least = {Long.MAX_VALUE, 0};
-        int ways = x.count(5);
+        int ways = mixed(seed).count(5);
         for (int way = 0; way < ways; way++) {
+            DecisionArrays x = mixed(seed);
             int left = way;
             for (int dec = x.count(2) - 1; dec >= 0; dec--) {
                 int choices = x.decision(dec, 2);

@@ -10,10 +10,12 @@ public final class WholeArrayPromisesEdgesTest {
         copy();
         deep();
         deepBounds();
+        deepestBounds();
         sort();
         searchMiddles();
         searchEdges();
         same();
+        sameRows();
         hashOfKinds();
         hashOfRows();
         Due.end();
@@ -127,6 +129,8 @@ public final class WholeArrayPromisesEdgesTest {
         Due.fails("another class", x, x.move(first, 0, second, 0, 1), 1);
         Due.fails("any class", x, x.move(first, 0, any, 0, 0), 1);
         Due.fails("from any class", x, x.move(any, 0, first, 0, 1), 1);
+        x.setRow(second, 0, 6);
+        Due.fine("the number of a row has no class", x, x.move(second, 0, x.rows(6, 1), 0, 1), 1);
         Due.fine("things of depth 1, another class", x, x.move(5, 0, 6, 0, 1), 1);
         Due.fine("things of depth 1, any class", x, x.move(7, 0, 6, 0, 1), 1);
     }
@@ -252,6 +256,34 @@ public final class WholeArrayPromisesEdgesTest {
         Due.fine("4000", z, z.count(1), 4000);
     }
 
+    private static void deepestBounds() {
+        Due.says("null ones null, numbered as in grid(): its number. 5, 8 (nothing is made).");
+        DecisionArrays x = new DecisionArrays();
+        x.grid(4, 4, 1, 1, 10, 200);
+        Due.fine("2012 elements", x, x.count(1), 2012);
+        Due.fails("4024 elements", x, x.deep(0), 8);
+        Due.fine("nothing is made", x, x.count(1), 2012);
+        Due.fine("no array is made", x, x.count(0), 13);
+        x.setRow(2, 0, -1);
+        Due.fine("3824 elements", x, x.deep(0), 13);
+        Due.fine("3824", x, x.count(1), 3824);
+        DecisionArrays y = new DecisionArrays();
+        y.grid(4, 4, 1, 1, 28, 1);
+        Due.fails("62 arrays", y, y.deep(0), 8);
+        Due.fine("no array is made", y, y.count(0), 31);
+        y.setRow(2, 27, -1);
+        Due.fails("61 arrays", y, y.deep(0), 8);
+        y.setRow(2, 26, -1);
+        Due.fine("60 arrays", y, y.deep(0), 31);
+        Due.fine("60", y, y.count(0), 60);
+        DecisionArrays z = Make.of(4, new long[150]);
+        for (int turn = 1; turn <= 25; turn++) {
+            Due.fine("150 more", z, z.deep(0), turn);
+        }
+        Due.fine("3900", z, z.count(1), 3900);
+        Due.fails("beyond 4000", z, z.deep(0), 8);
+    }
+
     private static void sort() {
         Due.says("Elements from .. to - 1 are put in order: how many places have other BITS than before.");
         for (int from = -1; from <= 5; from++) {
@@ -371,6 +403,44 @@ public final class WholeArrayPromisesEdgesTest {
         Due.fine("not classes of rows", z, z.same(2, 3), 1);
     }
 
+    /** Two ROWS each of ten arrays, every way: what was found of one pair says nothing of another. */
+    private static void sameRows() {
+        Due.says("Whether two arrays are the same all through");
+        for (int a = 0; a < 10; a++) {
+            for (int b = 0; b < 10; b++) {
+                DecisionArrays x = new DecisionArrays();
+                for (int q = 0; q < 10; q++) {
+                    x.grid(4, 1, 1, 0, 0, 0);
+                    x.write(q, 0, 0, 0, 0, 4, q % 3);
+                }
+                x.rows(0, 2);
+                x.rows(0, 2);
+                x.setRow(10, 0, a);
+                x.setRow(11, 0, b);
+                for (int cd = 0; cd < 100; cd++) {
+                    int c = cd / 10;
+                    int d = cd % 10;
+                    x.setRow(10, 1, c);
+                    x.setRow(11, 1, d);
+                    boolean due = a % 3 == b % 3 && c % 3 == d % 3;
+                    Due.is("rows " + a + " " + c + " and " + b + " " + d, x.same(10, 11), due ? 1 : 0);
+                }
+            }
+        }
+        DecisionArrays x = new DecisionArrays();
+        x.grid(4, 4, 1, 1, 2, 2);
+        x.write(0, 0, 0, 1, 1, 4, 9);
+        int other = x.deep(0);
+        Due.fine("depth 4", x, x.same(0, other), 1);
+        x.write(other, 0, 0, 1, 1, 4, 8);
+        Due.fine("depth 4, the last is another", x, x.same(0, other), 0);
+        Make.add(x, 4, 1, 2, 3);
+        int last = Make.add(x, 4, 1, 2, 4);
+        Due.fine("the last of three", x, x.same(last - 1, last), 0);
+        x.write(last, 2, 0, 0, 0, 4, 3);
+        Due.fine("all three", x, x.same(last - 1, last), 1);
+    }
+
     private static void hashOfKinds() {
         Due.says("A HASH: 1 at first; for each element 31 times it and h: of booleans 1231 and 1237 (not), of chars to "
             + "ints and floats the BITS, of longs and doubles both halves joined (xor), of THINGS their numbers, of ROWS "
@@ -421,5 +491,15 @@ public final class WholeArrayPromisesEdgesTest {
         x.setRow(1, 0, 0);
         Due.fine("one row twice", x, x.hash(1), 961 + 31 * 36 + 36);
         Due.fine("no rows", x, x.hash(x.rows(0, 0)), 1);
+        DecisionArrays y = Make.of(4, 1, 2);
+        Make.add(y, 4, 1, 3);
+        Due.fine("same ahead of hash", y, y.same(0, 1), 0);
+        Due.fine("hash", y, y.hash(0), 961 + 31 + 2);
+        Due.fine("same behind hash", y, y.same(0, 1), 0);
+        DecisionArrays z = Make.of(4, 1, 2);
+        Make.add(z, 4, 1, 3);
+        Due.fine("hash ahead of same", z, z.hash(1), 961 + 31 + 3);
+        Due.fine("same", z, z.same(0, 1), 0);
+        Due.fine("hash behind same", z, z.hash(1), 961 + 31 + 3);
     }
 }
