@@ -57,7 +57,7 @@ public final class KindsEdgesTest {
         Due.is("call 512", x.read(0, 110, 0, 0, 0, 5), 510);
         DecisionArrays y = new DecisionArrays();
         y.array(5, 200);
-        for (int call = 2; call <= 512; call += 2) {
+        for (int call = 2; call < 512; call += 2) {
             Due.is("a mark more", y.mark(), 1);
             Due.is("and back", y.back(), 0);
         }

@@ -30,7 +30,7 @@ public final class WholeArraysTest {
         Due.is(what + ", length", x.about(a, 2), bits.length);
         int kind = x.about(a, 0);
         for (int i = 0; i < bits.length; i++) {
-            Due.fine(what + ", place " + i, x, x.read(a, i, 0, 0, 0, kind), bits[i]);
+            Due.is(what + ", place " + i, x.read(a, i, 0, 0, 0, kind), bits[i]);
         }
     }
 
