@@ -17,6 +17,8 @@ public final class ArraysEdgesTest {
         twoBeforeThree();
         notAlike();
         lengthBelowZero();
+        pinnedOrOfAnotherClass();
+        firstOfSeveral();
         boundPassed();
         answers();
         codeOfTheLatest();
@@ -398,6 +400,42 @@ public final class ArraysEdgesTest {
             Due.fails("copy", x, x.copy(0, n), 4);
             Due.fine("nothing is made", x, x.count(0), 1);
         }
+    }
+
+    private static void pinnedOrOfAnotherClass() {
+        Due.says("6 an element is PINNED; 7 a THING of another CLASS;");
+        DecisionArrays x = new DecisionArrays();
+        x.things(3, 2);
+        Make.add(x, 8, 10, 4);
+        x.candidate(x.decide(0, 0, 0, 0, 0), 10);
+        Due.fails("write", x, x.write(0, 0, 0, 0, 0, 8, 4), 7);
+        Due.fails("fill", x, x.fill(0, 0, 2, 8, 4), 7);
+        Due.fails("move", x, x.move(1, 1, 0, 0, 1), 7);
+        Due.fails("candidate", x, x.candidate(0, 4), 7);
+        x.pin(0, 0, 0, 0, 0, true);
+        Due.fails("write, pinned", x, x.write(0, 0, 0, 0, 0, 8, 10), 6);
+        Due.fails("fill, pinned", x, x.fill(0, 0, 2, 8, 10), 6);
+        Due.fails("move, pinned", x, x.move(1, 0, 0, 0, 1), 6);
+        Due.fails("sort, pinned", x, x.sort(0, 0, 2), 6);
+        Due.fails("choose, pinned", x, x.choose(0, 0), 6);
+        Make.holds("all as it was", x, 0, 0, 0);
+    }
+
+    /** A few calls with all that can be wrong at once; RefusedCallsTest has the others. */
+    private static void firstOfSeveral() {
+        Due.says("CODES (of several the first one)");
+        DecisionArrays x = Make.ladder(8, 2);
+        x.things(3, 2);
+        x.pin(4, 0, 0, 0, 0, true);
+        Due.fails("5 of all", x, x.write(9, 9, 9, 9, 9, 9, -1), 5);
+        Due.fails("9 behind 5", x, x.write(4, 9, 9, 9, 9, 9, -1), 9);
+        Due.fails("9 for BITS", x, x.write(4, 9, 9, 9, 9, 4, 1L << 40), 9);
+        Due.fails("2 behind 9", x, x.write(4, 9, 9, 9, 9, 4, 4), 2);
+        Due.fails("3 behind 9", x, x.write(1, 0, 9, 9, 9, 4, 4), 3);
+        Due.fails("1 behind 2", x, x.write(4, 0, 9, 9, 9, 4, 4), 1);
+        Due.fails("6 behind 1", x, x.write(4, 0, 9, 9, 9, 8, 4), 6);
+        Due.fails("7 behind 6", x, x.write(4, 1, 9, 9, 9, 8, 4), 7);
+        Due.fine("none", x, x.write(4, 1, 9, 9, 9, 8, 3), 0);
     }
 
     private static void boundPassed() {

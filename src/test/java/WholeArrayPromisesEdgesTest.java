@@ -1,6 +1,7 @@
 /** Promises 16 to 23: the edges that each names, behind its sentence (what is refused: RefusedCallsTest). */
 public final class WholeArrayPromisesEdgesTest {
     public static void main(String[] args) {
+        depths();
         fillRange();
         fillValue();
         moveAtOnce();
@@ -19,6 +20,24 @@ public final class WholeArrayPromisesEdgesTest {
         hashOfKinds();
         hashOfRows();
         Due.end();
+    }
+
+    private static void depths() {
+        Due.says("whole arrays (of DEPTH 1 where not told)");
+        for (int a = 0; a < 4; a++) {
+            DecisionArrays x = Make.ladder(4, 2);
+            Due.is("fill", x.fill(a, 0, 2, 4, 0), a == 0 ? 2 : -1);
+            Due.is("fill of none", x.fill(a, 0, 0, 4, 0), a == 0 ? 0 : -1);
+            Due.is("sort", x.sort(a, 0, 2), a == 0 ? 0 : -1);
+            Due.is("sort of none", x.sort(a, 0, 0), a == 0 ? 0 : -1);
+            Due.is("search", x.search(a, 0), a == 0 ? 0 : -1);
+            Due.fine("move", x, x.move(a, 0, a, 1, 1), 1);
+            Due.fine("same", x, x.same(a, a), 1);
+            x.hash(a);
+            Due.is("hash", x.code(), 0);
+            Due.fine("copy", x, x.copy(a, 2), 4);
+            Due.fine("deep", x, x.deep(a), 5);
+        }
     }
 
     private static void fillRange() {
@@ -108,7 +127,7 @@ public final class WholeArrayPromisesEdgesTest {
     }
 
     private static void moveRows() {
-        Due.says("5, 1 (KIND or DEPTH is another one; of ROWS also the CLASS)");
+        Due.says("(any DEPTH: ROWS likewise): n. 5, 1 (KIND or DEPTH is another one; of ROWS also the CLASS)");
         DecisionArrays x = Make.ladder(4, 2);
         int other = x.copy(1, 3);
         Due.fine("rows", x, x.move(1, 0, other, 1, 2), 2);
