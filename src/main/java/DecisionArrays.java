@@ -176,7 +176,7 @@ public final class DecisionArrays {
         if (!store.has(a)) {
             return fail(NO_ARRAY);
         }
-        if (!Kinds.isKind(writer) || !Kinds.holds(writer, bits)) {
+        if (!Kinds.holds(writer, bits)) {
             return fail(NOT_TOLD);
         }
         int where = store.walk(a, i, j, k, l);
@@ -254,7 +254,7 @@ public final class DecisionArrays {
         if (!store.has(a)) {
             return fail(NO_ARRAY);
         }
-        if (!Kinds.isKind(writer) || !Kinds.holds(writer, bits)) {
+        if (!Kinds.holds(writer, bits)) {
             return fail(NOT_TOLD);
         }
         int kind = store.kind[a];
