@@ -6,7 +6,9 @@ import java.nio.file.Files;
 import java.nio.file.Path;
 import java.util.Arrays;
 import java.util.HashSet;
+import java.util.Map;
 import java.util.Set;
+import java.util.TreeMap;
 import java.util.TreeSet;
 import java.util.regex.Matcher;
 import java.util.regex.Pattern;
@@ -34,7 +36,10 @@ public final class LanguageTest {
         }
         classKeepsRules(DecisionArrays.class);
         Due.isTrue("at most 12 classes", DecisionArrays.class.getDeclaredClasses().length < 12);
-        words(Files.readString(Path.of("src/main/java/DecisionArrays.java")));
+        String source = Files.readString(Path.of("src/main/java/DecisionArrays.java"));
+        String code = source.replaceAll("(?s)/\\*.*?\\*/", "").replaceAll("//[^\n]*", "");
+        words(code);
+        callDepth(code);
         Due.end();
     }
 
@@ -76,8 +81,7 @@ public final class LanguageTest {
         Due.isTrue("at most 20 fields: " + type, fields <= 20);
     }
 
-    private static void words(String source) {
-        String code = source.replaceAll("(?s)/\\*.*?\\*/", "").replaceAll("//[^\n]*", "");
+    private static void words(String code) {
         String[] barred = {
             "throw", "throws", "try", "catch", "synchronized", "assert", "import", "package", "float", "double",
             "protected", "native", "volatile", "transient", "Object", "Exact", "->", "::", "var", "equals", "hashCode"
@@ -94,5 +98,51 @@ public final class LanguageTest {
             Due.isTrue("methods stay short: " + line, length <= 60);
             Due.isTrue("lines stay short: " + line, line.length() <= 120);
         }
+    }
+
+    /** Methods of one name are taken for one: what is found may be too deep, never too shallow. */
+    private static void callDepth(String code) {
+        Map<String, String> bodies = new TreeMap<>();
+        String name = "";
+        Pattern head = Pattern.compile(" {4}(?: {4})?[a-z][A-Za-z ]* (\\w+)\\([^()]*\\) \\{");
+        for (String line : code.split("\n")) {
+            Matcher found = head.matcher(line);
+            if (found.matches()) {
+                name = found.group(1);
+            } else if (!name.isEmpty()) {
+                bodies.merge(name, line + "\n", String::concat);
+            }
+        }
+        Map<String, Set<String>> calls = new TreeMap<>();
+        bodies.forEach((method, body) -> {
+            Set<String> called = new TreeSet<>();
+            Matcher found = Pattern.compile("(\\w+)\\(").matcher(body);
+            while (found.find()) {
+                if (bodies.containsKey(found.group(1))) {
+                    called.add(found.group(1));
+                }
+            }
+            calls.put(method, called);
+        });
+        Due.isTrue("the source's methods are found: " + calls.keySet(), calls.size() > FACE.length);
+        for (String line : FACE) {
+            String method = line.substring(line.indexOf(' ') + 1, line.indexOf('('));
+            Due.isTrue("found: " + method, calls.containsKey(method));
+            Due.isTrue("calls go at most eight deep from " + method,
+                calls.containsKey(method) && deepest(method, calls, new HashSet<>()) <= 8);
+        }
+    }
+
+    /** Methods that stand open already are left out: recursion has a guard of its own. */
+    private static int deepest(String method, Map<String, Set<String>> calls, Set<String> open) {
+        open.add(method);
+        int deepest = 0;
+        for (String next : calls.get(method)) {
+            if (!open.contains(next)) {
+                deepest = Math.max(deepest, deepest(next, calls, open));
+            }
+        }
+        open.remove(method);
+        return deepest + 1;
     }
 }
